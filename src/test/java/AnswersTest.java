@@ -123,6 +123,10 @@ public final class AnswersTest {
         x.tamper(1);
         x.tamper(4);
         due("count(5)", x.count(5), 18);
+        x.tamper(0);
+        due("count(5)", x.count(5), 19);
+        x.visit(0);
+        due("count(5)", x.count(5), 18);
         x.pass(370);
         due("count(0)", x.count(0), 370);
         due("count(6)", x.count(6), 37 + 37);
@@ -131,7 +135,7 @@ public final class AnswersTest {
         due("count(7)", x.count(7), 36 * 5 + 9);
         x.visit(0);
         due("count(7)", x.count(7), 2 * (36 * 5 + 9));
-        due("count(8)", x.count(8), 6);
+        due("count(8)", x.count(8), 7);
         due("count(5)", x.count(5), 2);
         x.put('x');
         due("count(15)", x.count(15), 1);
@@ -216,6 +220,21 @@ public final class AnswersTest {
         due("turnsIn(0) at the end of the time is told", x.turnsIn(0) > 0 ? 1 : 0, 1);
     }
 
+    private static void turnsInAtTheEdge() {
+        EnergyDiscs x = Check.house(0);
+        x.set(EnergyDiscs.START, 0);
+        x.set(EnergyDiscs.AGE, 5000);
+        x.load(0, 1);
+        x.turn(0);
+        x.pass(1440);
+        x.pass(1440);
+        x.pass(119);
+        due("of(0, 2)", x.of(0, 2), 2999);
+        due("turnsIn(0) in 3001", x.turnsIn(0), NONE);
+        x.pass(1);
+        due("turnsIn(0) in 3000", x.turnsIn(0), 3000);
+    }
+
     private static void wouldTurn() {
         EnergyDiscs x = tree();
         due("wouldTurn(5, 0, 0)", x.wouldTurn(5, 0, 0), NO_SUCH);
@@ -227,18 +246,25 @@ public final class AnswersTest {
         String before = Check.told(x);
         due("wouldTurn(2, 380, 1)", x.wouldTurn(2, 380, 1), 36);
         due("wouldTurn(2, 380, 0)", x.wouldTurn(2, 380, 0), 2);
+        due("wouldTurn(2, 1, 0)", x.wouldTurn(2, 1, 0), 0);
         due("wouldTurn(2, 9, 1)", x.wouldTurn(2, 9, 1), 0);
         due("wouldTurn(2, 10, 1)", x.wouldTurn(2, 10, 1), 1);
         // 640 minutes by day with 3000, and 320 with 3030, as the magnets get weaker at 1000.
         due("wouldTurn(4, 1440, 0)", x.wouldTurn(4, 1440, 0), 320 + 161);
         Check.same("wouldTurn() changes nothing", Check.told(x), before);
         due("count(16)", x.count(16), 6);
+        x.pass(20);
+        due("wouldTurn(2, 10, 1) after some turns", x.wouldTurn(2, 10, 1), 1);
+        x.pass(350);
+        due("wouldTurn(2, 10, 0) after some turns", x.wouldTurn(2, 10, 0), 1);
+        x.pass(1070);
+        x.visit(2);
         x.set(EnergyDiscs.AGE, 5000);
-        for (int i = 0; i < 69; i++) {
+        for (int i = 1; i < 69; i++) {
             x.pass(1440);
             x.visit(2);
         }
-        due("wouldTurn(2, 999, 0) beyond the time", x.wouldTurn(2, 999, 0), 63);
+        due("wouldTurn(2, 999, 0) beyond the time", x.wouldTurn(2, 999, 0), (x.of(2, 2) + 383400) / 6000);
         due("pass(999)", x.pass(999), EnergyDiscs.NOT_POSSIBLE);
     }
 
@@ -286,6 +312,12 @@ public final class AnswersTest {
         x.tamper(0);
         x.pass(20);
         due("lags(0)", x.lags(0), 10000000 + 20 + 4 - 18);
+        x.meter(0);
+        x.meter(4);
+        due("lags(0) with 7 meters", x.lags(0), 10000000 + 20 + 4 - 18);
+        due("lags(6) with 7 meters", x.lags(6), 10000000);
+        due("worst() with 7 meters", x.worst(), 3);
+        due("fed(4) with 7 meters", x.fed(4), 80);
     }
 
     public static void main(String[] args) {
@@ -299,6 +331,7 @@ public final class AnswersTest {
         bill();
         turnsIn();
         turnsInFar();
+        turnsInAtTheEdge();
         wouldTurn();
         worst();
         lags();

@@ -63,19 +63,23 @@ public final class ChangesTest {
         due("of(6, 2)", x.of(6, 2), 0);
     }
 
-    private static void meterAfterUndo() {
-        EnergyDiscs x = Check.house(0, 0);
-        x.load(1, 4000);
+    private static void newOnesInThePlaceOfOthers() {
+        EnergyDiscs x = Check.house(0);
+        x.save(0);
+        x.meter(0);
+        x.load(1, 1777);
         x.turn(0);
         x.pass(1440);
+        x.visit(1);
+        x.pass(1111);
         x.tamper(1);
-        for (int i = 0; i < 5; i++) {
-            x.undo();
-        }
-        due("count(2) after undo()", x.count(2), 1);
-        String before = Check.told(Check.house(0, 0));
+        due("restore(0) to one meter", x.restore(0), 1);
         x.meter(0);
-        Check.same("a meter that comes after undo() is new", Check.told(x), before);
+        x.load(0, 33);
+        EnergyDiscs fresh = Check.house(0, 0);
+        fresh.load(0, 33);
+        Check.same("a meter and a load that come after restore() are new", Check.told(x), Check.told(fresh));
+        due("wouldTurn(1, 1440, 1)", x.wouldTurn(1, 1440, 1), 0);
     }
 
     private static void load() {
@@ -205,6 +209,34 @@ public final class ChangesTest {
         due("of(0, 2) creeping without a load", x.of(0, 2), 92);
     }
 
+    private static void minuteWithTheLeastPower() {
+        EnergyDiscs x = Check.house(0);
+        x.set(EnergyDiscs.HOLE, 0);
+        x.load(0, 1);
+        x.turn(0);
+        x.pass(50);
+        due("of(0, 2): with 1 W the disc stands, and does not creep", x.of(0, 2), 0);
+    }
+
+    private static void minuteBetweenDayAndNight() {
+        EnergyDiscs x = Check.house(0);
+        x.load(0, 3000);
+        x.turn(0);
+        x.pass(100);
+        x.pass(300);
+        due("of(0, 5) after passing the minute 360", x.of(0, 5), 180);
+        due("of(0, 4)", x.of(0, 4), 20);
+        x.pass(400);
+        x.visit(0);
+        x.pass(640);
+        due("of(0, 5) after passing the minute 1320", x.of(0, 5), 180 + 60);
+        due("of(0, 4)", x.of(0, 4), 480);
+        x.visit(0);
+        x.pass(400);
+        due("of(0, 5) after passing midnight and the minute 360", x.of(0, 5), 180 + 60 + 180);
+        due("of(0, 4)", x.of(0, 4), 480 + 20);
+    }
+
     private static void minuteCreeping() {
         EnergyDiscs x = Check.house(0);
         x.load(0, 1999);
@@ -319,7 +351,7 @@ public final class ChangesTest {
         newObject();
         set();
         meter();
-        meterAfterUndo();
+        newOnesInThePlaceOfOthers();
         load();
         turn();
         tamper();
@@ -327,6 +359,8 @@ public final class ChangesTest {
         visitMakesMagnetsNew();
         pass();
         minuteAtTheStart();
+        minuteWithTheLeastPower();
+        minuteBetweenDayAndNight();
         minuteCreeping();
         minuteTurning();
         minuteTampered();

@@ -179,6 +179,24 @@ public final class UndoSaveTest {
         due("count(16)", x.count(16), 6);
     }
 
+    private static void restoreOfAnotherHouse() {
+        EnergyDiscs x = Check.house(0, 0, 1, 2);
+        x.load(3, 3000);
+        x.load(1, 50);
+        x.turn(0);
+        String saved = Check.told(x);
+        EnergyDiscs y = new EnergyDiscs();
+        y.save(1);
+        Check.pad(y, "m;m;m1;m2;l3=3000;l1=50;s0");
+        y.carryOut();
+        y.save(0);
+        y.restore(1);
+        Check.pad(y, "m;m;m;m;m;l2=7;l2=8;s1;t99;b3");
+        due("carryOut()", y.carryOut(), 10);
+        due("restore(0)", y.restore(0), 4);
+        Check.same("all is as it was saved", Check.told(y), saved);
+    }
+
     private static void restoreOfNothing() {
         EnergyDiscs x = new EnergyDiscs();
         x.save(1);
@@ -199,6 +217,7 @@ public final class UndoSaveTest {
         undoLeavesPadAndSlots();
         save();
         restore();
+        restoreOfAnotherHouse();
         restoreOfNothing();
         Check.end();
     }
