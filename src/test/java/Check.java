@@ -4,21 +4,27 @@ final class Check {
     static final long PACKED_ORDERS = packed("s0;t9;s0");
 
     private static int wrong = 0;
+    private static String sentence = "";
 
     private Check() {
+    }
+
+    /** Tells the sentence of the document that the checks from here on hold it to: a wrong answer is told with it. */
+    static void sentence(String words) {
+        sentence = "\"" + words + "\": ";
     }
 
     static void due(String call, long got, long want) {
         if (got != want) {
             wrong++;
-            System.out.println(call + " answered " + got + ", due is " + want);
+            System.out.println(sentence + call + " answered " + got + ", due is " + want);
         }
     }
 
     static void holds(String what, boolean so) {
         if (!so) {
             wrong++;
-            System.out.println("it does not hold that " + what);
+            System.out.println(sentence + "it does not hold that " + what);
         }
     }
 
@@ -72,6 +78,7 @@ final class Check {
                 all.append(x.of(meter, what)).append(' ');
             }
             all.append(x.misses(meter)).append(' ').append(x.bill(meter)).append(' ').append(x.turnsIn(meter)).append(' ');
+            all.append(x.fed(meter)).append(' ').append(x.lags(meter)).append(' ');
         }
         for (int load = 0; load < x.count(3); load++) {
             all.append("load ").append(load).append(": ");
