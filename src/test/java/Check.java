@@ -47,14 +47,15 @@ final class Check {
 
     static String padOf(EnergyDiscs x) {
         StringBuilder text = new StringBuilder();
-        for (int i = 0; i < x.count(15); i++) {
+        int length = x.count(15);
+        for (int i = 0; i < length; i++) {
             text.append((char) x.sign(i));
         }
         return text.toString();
     }
 
     static void padIs(EnergyDiscs x, String want) {
-        holds("the pad is " + want + ", which is " + padOf(x), padOf(x).equals(want));
+        same("the pad", padOf(x), want);
     }
 
     /** A house with meters that are fed as told: the first one from outside. */

@@ -387,6 +387,14 @@ public final class EdgesOfTextsTest {
         due("count(0): those before the error stay, those behind it are not carried out", x.count(0), 30);
     }
 
+    private static String counts(EnergyDiscs x) {
+        StringBuilder all = new StringBuilder();
+        for (int what = 0; what <= 8; what++) {
+            all.append(x.count(what)).append(' ');
+        }
+        return all.toString();
+    }
+
     private static void carryOutIsOneChange() {
         Check.sentence("This is a change (one, with all of them; also if none is carried out).");
         EnergyDiscs x = Houses.empty();
@@ -394,12 +402,12 @@ public final class EdgesOfTextsTest {
         String[] texts = {"m;m", "s0", "l1=4000;s0", "t0", "t100;b1", "v1;v0;t1", "v3", "m;m;m;m;m;m"};
         int[] done = {2, 0, 2, 0, 2, 3, 0, 5};
         for (int i = 0; i < texts.length; i++) {
-            told[i] = Check.told(x);
+            told[i] = counts(x);
             carries(x, texts[i], done[i]);
         }
         for (int i = texts.length - 1; i >= 2; i--) {
             due("undo()", x.undo(), i - 2);
-            Check.same("undo() of " + texts[i], Check.told(x), told[i]);
+            Check.same("undo() of " + texts[i], counts(x), told[i]);
         }
         due("undo()", x.undo(), EnergyDiscs.NOT_POSSIBLE);
         due("count(15): undo() brings no text back", x.count(15), 0);

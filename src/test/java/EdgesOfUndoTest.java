@@ -4,6 +4,9 @@ public final class EdgesOfUndoTest {
     private static final int NOT_POSSIBLE = EnergyDiscs.NOT_POSSIBLE;
     private static final int[] NO_SLOTS = {-1, 2, Houses.EXTREMES[0], Houses.EXTREMES[1]};
 
+    private static final String CHAIN = "m;m;m1;m2;m3;m4;m5;l6=1;l5=2222;s1";
+    private static final String STAR = "m;m;m;m;m;m;m;l1=11;s0;l2=4000";
+
     private static void due(String call, long got, long want) {
         Check.due(call, got, want);
     }
@@ -212,16 +215,21 @@ public final class EdgesOfUndoTest {
         Check.sentence("everything except the pad, the slots and the history is as it was before it.");
         // Each is the number of a call in ModelTest.NAMES and its two arguments: all changes that a full house allows.
         int[][] changes = {{0, EnergyDiscs.NIGHT, 99}, {3, 11, 0}, {4, 0, 0}, {5, 5, 0}, {6, 1440, 0}, {22, 0, 0}, {25, 0, 0}};
+        String before = Check.told(withOrders());
         for (int[] change : changes) {
-            EnergyDiscs x = Houses.full();
             String name = ModelTest.NAMES[change[0]];
-            Check.pad(x, "s11;t1440;b0;v5");
-            String before = Check.told(x);
+            EnergyDiscs x = withOrders();
             Check.holds(name + " is without an error", ModelTest.answer(x, change[0], change[1], change[2], 0, 0) >= 0);
             Check.holds(name + " makes a difference", !Check.told(x).equals(before));
             due("undo() of " + name, x.undo(), 5);
             Check.same("all is as it was before " + name, Check.told(x), before);
         }
+    }
+
+    private static EnergyDiscs withOrders() {
+        EnergyDiscs x = Houses.full();
+        Check.pad(x, "s11;t1440;b0;v5");
+        return x;
     }
 
     private static void noSuchSlot() {
@@ -317,33 +325,40 @@ public final class EdgesOfUndoTest {
         due("count(0)", x.count(0), 1333 + 7);
     }
 
-    private static EnergyDiscs starWithLoads() {
-        EnergyDiscs x = Check.house(0, 0, 0, 0, 0, 0, 0);
-        x.turn(x.load(1, 11));
-        x.load(2, 4000);
+    private static EnergyDiscs carriedOut(EnergyDiscs x, String text) {
+        Check.pad(x, text);
+        due("carryOut() of " + text, x.carryOut(), 10);
+        return x;
+    }
+
+    /** A house with a chain of meters in the slot 0, and a star of meters in the slot 1, which is there, too. */
+    private static EnergyDiscs withChainAndStar() {
+        EnergyDiscs x = Houses.empty();
+        x.save(1);
+        carriedOut(x, CHAIN);
+        due("save(0) of a chain", x.save(0), 7);
+        due("restore(1)", x.restore(1), 0);
+        carriedOut(x, STAR);
+        due("save(1) of a star", x.save(1), 7);
         return x;
     }
 
     private static void restoreAnotherHouse() {
         Check.sentence("Restores what was saved last in a slot, which keeps it.");
-        String star = Check.told(starWithLoads());
-        EnergyDiscs x = Houses.empty();
-        x.save(1);
-        Check.pad(x, "m;m;m1;m2;m3;m4;m5;l6=1;l5=2222;s1");
-        due("carryOut()", x.carryOut(), 10);
-        String chain = Check.told(x);
-        due("save(0) of a chain", x.save(0), 7);
-        due("restore(1)", x.restore(1), 0);
-        Check.pad(x, "m;m;m;m;m;m;m;l1=11;s0;l2=4000");
-        due("carryOut()", x.carryOut(), 10);
+        String chain = Check.told(carriedOut(Houses.empty(), CHAIN));
+        String star = Check.told(carriedOut(Houses.empty(), STAR));
+        EnergyDiscs x = withChainAndStar();
         Check.same("a star came", Check.told(x), star);
-        due("save(1) of a star", x.save(1), 7);
         due("restore(0)", x.restore(0), 7);
         Check.same("the chain is restored", Check.told(x), chain);
+        x = withChainAndStar();
+        x.restore(0);
         due("restore(1)", x.restore(1), 7);
         Check.same("the star is restored", Check.told(x), star);
         due("undo()", x.undo(), 4);
         Check.same("the chain is there after undo()", Check.told(x), chain);
+        x = withChainAndStar();
+        x.restore(0);
         due("undo()", x.undo(), 3);
         Check.same("the star is there after undo()", Check.told(x), star);
     }

@@ -1,4 +1,4 @@
-/** Houses that tests begin with, each made by less than 120 calls: an object may be used for 512. */
+/** Houses that tests begin with: each is made by less than 250 calls, as an object may be used for 512 alone. */
 final class Houses {
     static final int LATEST = 99999;
     static final int[] EXTREMES = {Integer.MIN_VALUE, Integer.MAX_VALUE};

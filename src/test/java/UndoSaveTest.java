@@ -53,9 +53,7 @@ public final class UndoSaveTest {
         due("undo()", x.undo(), NOT_POSSIBLE);
         x.meter(0);
         due("count(16)", x.count(16), 1);
-        String[] states = new String[20];
         for (int i = 0; i < 20; i++) {
-            states[i] = Check.told(x);
             x.meter(0);
             x.pass(i + 1);
             x.undo();
